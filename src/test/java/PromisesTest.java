@@ -584,7 +584,19 @@ public final class PromisesTest {
         dueTable(mirrored, 1, 1, 10023, "14/29");
     }
 
+    /**
+     * Costs by order: ul 5 5, lu 6 3, uul 5 5 5, ulu 5 5 1, luu 6 3 5. So the table has lu at (1, 1),
+     * goes on from there, and misses ulu.
+     */
     private static void promise17TableIsNotBest() {
+        SeamPictures x = picture("1313/1331/0103", "");
+        dueBest(x, 1, 1, 10009, 1, 1, 0);
+        dueBest(x, 2, 1, 10011, 1, 2, 0);
+        dueTable(x, 1, 1, 10009, "133/010");
+        dueTable(x, 2, 0, 10010, "13/31/03");
+        dueTable(x, 2, 1, 10014, "33/10");
+        due("go(2, 1)", x.go(2, 1), 10011);
+        duePicture("go(2, 1)", x, "13/03", "../..");
     }
 
     private static void promise17TableIsRefused() {
