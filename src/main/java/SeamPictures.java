@@ -504,8 +504,10 @@ public final class SeamPictures {
         }
 
         private void moveDot(int way, int line, int from, int to) {
-            greys[index(way, line, to)] = greyAt(way, line, from);
-            marks[index(way, line, to)] = markAt(way, line, from);
+            int source = index(way, line, from);
+            int target = index(way, line, to);
+            greys[target] = greys[source];
+            marks[target] = marks[source];
         }
 
         private void broaden(int way, int by) {

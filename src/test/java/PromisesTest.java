@@ -37,6 +37,8 @@ public final class PromisesTest {
         promise16BestIsRefused();
         promise17Table();
         promise17TableIsNotBest();
+        promise17TableAmongEquals();
+        promise17TableOfOblongs();
         promise17TableIsRefused();
         promise18Go();
         promise19Image();
@@ -403,6 +405,9 @@ public final class PromisesTest {
         SeamPictures x = picture(NINE, "");
         due("cost(0, 20)", x.cost(0, 20), NO);
         due("cost(0, 2)", x.cost(0, 2), NO);
+        due("cost(0, 200)", x.cost(0, 200), NO);
+        due("cost(0, 220)", x.cost(0, 220), NO);
+        due("cost(1, 200)", x.cost(1, 200), NO);
         due("cost(0, 133)", x.cost(0, 133), NO);
         due("cost(0, 223)", x.cost(0, 223), NO);
         due("cost(0, 322)", x.cost(0, 322), NO);
@@ -458,6 +463,9 @@ public final class PromisesTest {
         x = picture("09/09", ".g/.g");
         due("add(0) at the right", x.add(0), 10000 - 182);
         duePicture("add(0): a new dot has no mark", x, "099/099", ".g./.g.");
+        x = picture("0489/0389", "g.../g...");
+        due("add(0) at the left", x.add(0), 10000 - 193);
+        duePicture("add(0) at the left", x, "02489/01389", "g..../g....");
         x.size(7, 8);
         due("add(1) of eight", x.add(1), STATE);
         due("add(0) of seven", x.add(0), 10000);
@@ -485,6 +493,12 @@ public final class PromisesTest {
         due("least(0, 1) of a going dot", x.least(0, 1), 2);
         due("least(1, 2) of a going dot", x.least(1, 2), 1);
         due("least(1, 1) without a kept dot", x.least(1, 1), 1);
+        SeamPictures oblong = picture("00000/00000", "kkkkg/kkk.k");
+        due("least(0, 0) of an oblong", oblong.least(0, 0), 4);
+        due("least(0, 1) of an oblong", oblong.least(0, 1), 3);
+        oblong = picture("00/00/00/00/00", "kk/kk/kk/k./gk");
+        due("least(1, 0) of an oblong", oblong.least(1, 0), 4);
+        due("least(1, 1) of an oblong", oblong.least(1, 1), 3);
         x.size(3, 5);
         due("least(0, 4)", x.least(0, 4), 0);
         due("least(0, 5)", x.least(0, 5), UNKNOWN);
@@ -599,6 +613,26 @@ public final class PromisesTest {
         duePicture("go(2, 1)", x, "13/03", "../..");
     }
 
+    /**
+     * Upright first costs 15 and 7, lying first 13 and 9, and other dots are left then. Among equals
+     * BEST has the upright seam first, the table has it last: it takes (0, 1) ahead of (1, 0).
+     */
+    private static void promise17TableAmongEquals() {
+        SeamPictures x = picture("851/367/274", "");
+        dueBest(x, 1, 1, 10022, 2, 2, 0);
+        dueTable(x, 1, 1, 10022, "85/34");
+        due("go(1, 1) among equals", x.go(1, 1), 10022);
+        duePicture("go(1, 1) among equals", x, "81/36", "../..");
+    }
+
+    private static void promise17TableOfOblongs() {
+        SeamPictures x = picture("01234567/00000000", "");
+        dueTable(x, 0, 0, 10000, "01234567/00000000");
+        x = picture("00/11/22/33/44/55/66/77", "../gg/gg/gg/gg/gg/gg/..");
+        // With one way alone the table has no choice, so it is BEST.
+        dueTable(x, 0, 6, x.best(0, 6, 0), "00/77");
+    }
+
     private static void promise17TableIsRefused() {
         SeamPictures x = picture(NINE, "");
         int[] wrong = {-1, 1, 9, 90, 100};
@@ -710,5 +744,9 @@ public final class PromisesTest {
         x.cut(1);
         due("WIDE after a cut", x.count(0), 3);
         due("HIGH after a cut", x.count(1), 2);
+        x = picture("00/00/12/34", "../../.k/gk");
+        due("greys of the lower rows", x.count(2), 10);
+        due("kept dots of the lower rows", x.count(3), 2);
+        due("going dots of the lower rows", x.count(4), 1);
     }
 }
