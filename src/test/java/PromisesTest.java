@@ -1,4 +1,8 @@
-/** Each promise by examples worked out by hand: ordinary inputs, edges and wrong inputs. */
+/**
+ * Each promise by examples: ordinary inputs, edges and wrong inputs. They are worked out by hand, but
+ * for two pictures, 1313/1331/0103 and 851/367/274, that were searched for, with costs that
+ * SlowPictures told.
+ */
 public final class PromisesTest {
     private static final int UNKNOWN = -1, OUTSIDE = -2, STATE = -3, FULL = -4, NO = -5, NONE = -6, FAULT = -7;
     private static final int[] FAR = {Integer.MIN_VALUE, -1000000, -1, 1000000, Integer.MAX_VALUE};
