@@ -6,7 +6,7 @@ import java.util.Random;
  * The calls come from fixed seeds, so that each run of the test is the same.
  */
 public final class ModelTest {
-    private static final int RUNS = 2400;
+    private static final int RUNS = 2800;
     private static final int CALLS = 512;
     private static final int[] ODD = {-1000000, -2, -1, 8, 9, 10, 90, 2147483647, -2147483648};
 
@@ -18,6 +18,8 @@ public final class ModelTest {
     // Few greys and marks make many equals, so the choice among equals is looked at often.
     private final int greys;
     private final int marksInTen;
+    // An object is promised for so many calls only.
+    private int callsLeft = CALLS;
 
     private ModelTest(Checks checks, int run) {
         this.checks = checks;
@@ -36,26 +38,24 @@ public final class ModelTest {
     }
 
     private void callAll() {
-        int calls = 0;
-        while (calls < CALLS) {
+        // A turn of say may need four calls; some turns make none, so turns are counted too.
+        for (int turn = 0; turn < 4 * CALLS && callsLeft >= 4; turn++) {
             // Mostly a picture is laid first, so that what follows has something to tell.
-            if (random.nextInt(25) == 0 && calls < CALLS - 170) {
-                calls += layPicture();
+            if (random.nextInt(25) == 0 && callsLeft > 170) {
+                layPicture();
             } else {
                 oneCall(random.nextInt(21));
-                calls++;
             }
         }
     }
 
-    private int layPicture() {
+    private void layPicture() {
         int wide = 2 + random.nextInt(7);
         int high = 2 + random.nextInt(7);
         due("size", slow.size(wide, high), x.size(wide, high), wide, high);
         due("wipe", slow.wipe(), x.wipe());
         layAll(0, wide, high);
         layAll(1, wide, high);
-        return 4 + 2 * (high * (wide + 1) - 1);
     }
 
     private void layAll(int how, int wide, int high) {
@@ -80,6 +80,7 @@ public final class ModelTest {
     }
 
     private void due(String name, int want, int got, int... args) {
+        callsLeft--;
         checks.due("run " + run + ": " + name + Arrays.toString(args), got, want);
     }
 
@@ -227,7 +228,7 @@ public final class ModelTest {
 
     /** Now and then every dot, so that a wrong change is seen before it is gone. */
     private void lookAtAll() {
-        if (random.nextInt(40) > 0) {
+        if (random.nextInt(40) > 0 || callsLeft < 4 * 64) {
             return;
         }
         for (int y = 0; y < slow.count(1); y++) {

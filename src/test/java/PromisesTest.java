@@ -3,10 +3,7 @@
  * for two pictures, 1313/1331/0103 and 851/367/274, that were searched for, with costs that
  * SlowPictures told.
  */
-public final class PromisesTest {
-    private static final int UNKNOWN = -1, OUTSIDE = -2, STATE = -3, FULL = -4, NO = -5, NONE = -6, FAULT = -7;
-    private static final int[] FAR = {Integer.MIN_VALUE, -1000000, -1, 1000000, Integer.MAX_VALUE};
-
+public final class PromisesTest extends Examples {
     /*
      * The picture most examples begin with, its weights by rule 0, and its gaps:
      *   1 5 2     10  3 10     to the left and right  4 1 3    above and below  6 2 7
@@ -14,8 +11,6 @@ public final class PromisesTest {
      *   4 8 6      7  7  5                            4 2 2                     3 5 3
      */
     private static final String NINE = "152/739/486";
-
-    private static final Checks checks = new Checks();
 
     public static void main(String[] args) {
         promise1New();
@@ -49,54 +44,6 @@ public final class PromisesTest {
         promise20Restore();
         promise21Count();
         checks.finish();
-    }
-
-    private static void due(String call, long got, long want) {
-        checks.due(call, got, want);
-    }
-
-    /** A picture of that many dots; what lies on it are the greys and, if there are any, the marks. */
-    private static SeamPictures picture(String greys, String marks) {
-        SeamPictures x = new SeamPictures();
-        int wide = greys.indexOf('/');
-        x.size(wide, (greys.length() + 1) / (wide + 1));
-        saying(x, greys).lay(0);
-        if (!marks.isEmpty()) {
-            saying(x, marks).lay(1);
-        }
-        return x;
-    }
-
-    private static SeamPictures saying(SeamPictures x, String signs) {
-        for (int i = 0; i < signs.length(); i++) {
-            x.say(signs.charAt(i));
-        }
-        return x;
-    }
-
-    /** Whether the dots are just these. */
-    private static void duePicture(String after, SeamPictures x, String greys, String marks) {
-        dueDots(after + ": greys", x, 0, greys, "0123456789");
-        dueDots(after + ": marks", x, 1, marks, ".kg");
-    }
-
-    private static void dueDots(String after, SeamPictures x, int what, String rows, String signs) {
-        String[] row = rows.split("/");
-        due(after + ": WIDE", x.count(0), row[0].length());
-        due(after + ": HIGH", x.count(1), row.length);
-        for (int y = 0; y < row.length; y++) {
-            for (int i = 0; i < row[y].length(); i++) {
-                due(after + ": dot (" + i + ", " + y + ")", x.dot(i, y, what), signs.indexOf(row[y].charAt(i)));
-            }
-        }
-    }
-
-    private static void dueSeam(String of, SeamPictures x, int way, int cost, int... places) {
-        due(of + ": cost of seam " + way, x.seam(way, -1), 10000 + cost);
-        for (int i = 0; i < places.length; i++) {
-            due(of + ": seam(" + way + ", " + i + ")", x.seam(way, i), places[i]);
-        }
-        due(of + ": seam(" + way + ", " + places.length + ")", x.seam(way, places.length), NONE);
     }
 
     private static void promise1New() {
